@@ -392,7 +392,6 @@ public final class ProcessorHouse {
             this.mask = (1L << bits) - 1;
         }
 
-        @Override
         boolean uses(Thing other) {
             return false;
         }
@@ -466,7 +465,6 @@ public final class ProcessorHouse {
             this.machine = machine;
         }
 
-        @Override
         boolean uses(Thing other) {
             return other == machine;
         }
@@ -502,7 +500,6 @@ public final class ProcessorHouse {
             this.memory = new long[program.machine.places];
         }
 
-        @Override
         boolean uses(Thing other) {
             return other == program;
         }
@@ -570,7 +567,6 @@ public final class ProcessorHouse {
             this.machine = machine;
         }
 
-        @Override
         boolean uses(Thing other) {
             return other == machine;
         }
@@ -608,7 +604,6 @@ public final class ProcessorHouse {
             this.left = new Run(program);
         }
 
-        @Override
         boolean uses(Thing other) {
             return other == core || other == left.program;
         }
@@ -680,7 +675,6 @@ public final class ProcessorHouse {
             this.storesWait = storesWait;
         }
 
-        @Override
         boolean uses(Thing other) {
             return other == one || other == two;
         }
@@ -840,7 +834,7 @@ public final class ProcessorHouse {
             System.arraycopy(states, at * WIDTH, trial, 0, WIDTH);
         }
 
-        /** Open addressing: the trial is in the first slot from its own on that holds it, or in none before a free one. */
+        /** From the trial's own slot on: a free slot before one that holds it tells that it is new. */
         private void keepTrial() {
             int start = mixed();
             for (int k = 0; k < SLOTS; k++) {

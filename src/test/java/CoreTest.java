@@ -17,8 +17,6 @@ public final class CoreTest {
         ProcessorHouse house = new ProcessorHouse();
         house.machine(8, 4);
         house.program(1);
-        house.word(2, 1, 0, 0, 0, 0);
-        house.word(2, 6, 0, 1, 0, 0);
         house.word(2, 7, 0, 0, 0, 0);
         return house;
     }
@@ -59,7 +57,7 @@ public final class CoreTest {
         CHECK.refused(house, 1, "change(3, ..), dropped", () -> house.change(3, 2, 0, 0, 0));
     }
 
-    /** Cycles of ADD 0 0 0; SET 1; LOAD 2 at 0; BRANCH 1 to 4; STOP; STOP, by the core as it is then. */
+    /** Cycles of a new sim until its end, by the core as it is then. */
     private static int cyclesOf(ProcessorHouse house, int core, int program) {
         int sim = house.sim(core, program);
         int cycles = house.cycles(sim, 2000);

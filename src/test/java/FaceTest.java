@@ -11,7 +11,8 @@ public final class FaceTest {
     private static final String[] METHODS = {
         "int machine(int int) IllegalArgumentException IllegalStateException",
         "int program(int) IllegalStateException",
-        "int word(int int int int int int) IllegalStateException IllegalArgumentException UnsupportedOperationException",
+        "int word(int int int int int int) IllegalStateException IllegalArgumentException"
+            + " UnsupportedOperationException",
         "int run(int) IllegalStateException",
         "int step(int int) IllegalStateException IllegalArgumentException",
         "int core(int int int int int) IllegalStateException IllegalArgumentException",

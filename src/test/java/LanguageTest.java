@@ -23,7 +23,8 @@ public final class LanguageTest {
     public static void main(String[] args) throws IOException {
         Check check = new Check();
         String text = Files.readString(Path.of(FILE));
-        String code = text.replaceAll("(?s)/\\*.*?\\*/", "").replaceAll("//[^\n]*", "").replaceAll("\"[^\"\n]*\"", "\"\"");
+        String code = text.replaceAll("(?s)/\\*.*?\\*/", "").replaceAll("//[^\n]*", "")
+                .replaceAll("\"[^\"\n]*\"", "\"\"");
         for (String[] refused : REFUSED) {
             Matcher found = Pattern.compile(refused[1]).matcher(code);
             if (found.find()) {

@@ -1,6 +1,7 @@
 import java.util.ArrayDeque;
 import java.util.ArrayList;
 import java.util.Arrays;
+import java.util.Collections;
 import java.util.Comparator;
 import java.util.HashSet;
 import java.util.List;
@@ -44,7 +45,11 @@ final class Model {
     }
 
     private Entry at(int handle) {
-        return handle >= 1 && handle <= entries.size() && entries.get(handle - 1).lives ? entries.get(handle - 1) : null;
+        if (!in(handle, 1, entries.size())) {
+            return null;
+        }
+        Entry entry = entries.get(handle - 1);
+        return entry.lives ? entry : null;
     }
 
     /** Rules 1 and 2; 0 when neither refuses. */
@@ -377,7 +382,8 @@ final class Model {
     }
 
     /** A state: of each program its next word, registers and waiting stores (place, number), then memory. */
-    private record Both(List<Integer> next, List<List<Long>> registers, List<List<List<Long>>> rows, List<Long> memory) {
+    private record Both(List<Integer> next, List<List<Long>> registers, List<List<List<Long>>> rows,
+            List<Long> memory) {
         Both with(int side, int newNext, List<Long> own, List<List<Long>> row, List<Long> newMemory) {
             return new Both(put(next, side, newNext), put(registers, side, own), put(rows, side, row), newMemory);
         }
@@ -396,7 +402,7 @@ final class Model {
         int places = at(at(pair.parts[0]).parts[0]).numbers[1];
         List<Long> none = List.of(0L, 0L, 0L, 0L);
         Both first = new Both(List.of(0, 0), List.of(none, none), List.of(List.of(), List.of()),
-                new ArrayList<>(java.util.Collections.nCopies(places, 0L)));
+                Collections.nCopies(places, 0L));
         Set<Both> seen = new HashSet<>(Set.of(first));
         ArrayDeque<Both> open = new ArrayDeque<>(seen);
         List<List<Long>> ends = new ArrayList<>();

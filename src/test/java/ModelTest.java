@@ -34,13 +34,17 @@ public final class ModelTest {
         compare(Arrays.copyOf(numbers, 7));
     }
 
-    /** Mostly loads and stores, so that two of these meet in memory. */
+    /** Registers that differ, then mostly loads and stores, so that two of these meet in memory. */
     private void meetingProgram(int program) {
-        int words = 2 + random.nextInt(6);
+        call(2, program, 0, 1, 0, 0, 1);
+        if (random.nextBoolean()) {
+            call(2, program, 0, 2, 0, 0, 2 + random.nextInt(3));
+        }
+        int words = 2 + random.nextInt(4);
         for (int k = 0; k < words; k++) {
-            int[] ops = {0, 4, 5, 4, 5, 5, random.nextInt(8)};
-            call(2, program, ops[random.nextInt(ops.length)], random.nextInt(4), random.nextInt(4), random.nextInt(4),
-                    random.nextInt(9) - 2);
+            int op = random.nextInt(6) == 0 ? random.nextInt(8) : 4 + random.nextInt(2);
+            int d = random.nextInt(4) == 0 ? random.nextInt(4) : 3;
+            call(2, program, op, d, random.nextInt(3), 1 + random.nextInt(3), random.nextInt(9) - 2);
         }
     }
 

@@ -8,6 +8,7 @@ public final class PairTest {
         bothEndsAreOne();
         rowOfTwo();
         ownRowFirst();
+        storesWaitLong();
         messagePassing();
         orderOfEnds();
         endsWithoutSign();
@@ -148,6 +149,22 @@ public final class PairTest {
         }
     }
 
+    /** A store may wait while its own program goes on and the other one's later stores go first. */
+    private static void storesWaitLong() {
+        ProcessorHouse house = house(4, 2);
+        int waits = program(house, w(0, 1, 0, 0, 1), w(5, 0, 0, 1, 0), w(4, 2, 1, 0, 0), w(4, 3, 1, 0, 0));
+        int hurries = program(house, w(0, 1, 0, 0, 1), w(0, 2, 0, 0, 2), w(5, 0, 1, 1, 0), w(5, 0, 0, 2, 0),
+                w(4, 3, 0, 0, 0));
+        int pair = house.pair(waits, hurries, 1);
+        boolean seen = false;
+        for (int k = 0; k < house.explore(pair, 1); k++) {
+            // It loaded 0, then 1 from place 1; its store went last, and the other one saw it.
+            seen |= house.end(pair, k, 2) == 0 && house.end(pair, k, 3) == 1 && house.end(pair, k, 7) == 1
+                    && house.end(pair, k, 8) == 1;
+        }
+        CHECK.due("a store that waited long", 1, seen ? 1 : 0);
+    }
+
     /** Stores go in their order: who sees the flag sees the number. */
     private static void messagePassing() {
         for (int kind = 0; kind <= 1; kind++) {
@@ -226,7 +243,7 @@ public final class PairTest {
         }
     }
 
-    /** A program of SETs of registers to themselves has as many states as words and one. */
+    /** Words that change nothing but the next word: as many states as words, and one. */
     private static int straight(ProcessorHouse house, int words) {
         int program = house.program(1);
         for (int k = 0; k < words; k++) {
