@@ -9,6 +9,7 @@ public final class PairTest {
         rowOfTwo();
         ownRowFirst();
         storesWaitLong();
+        everyPlace();
         messagePassing();
         orderOfEnds();
         endsWithoutSign();
@@ -163,6 +164,24 @@ public final class PairTest {
                     && house.end(pair, k, 8) == 1;
         }
         CHECK.due("a store that waited long", 1, seen ? 1 : 0);
+    }
+
+    private static void everyPlace() {
+        for (int places = 1; places <= 8; places++) {
+            for (int kind = 0; kind <= 1; kind++) {
+                ProcessorHouse house = house(8, places);
+                int last = program(house, w(0, 1, 0, 0, 4 * places - 1), w(5, 0, 1, 1, 0), w(4, 2, 1, 0, 0));
+                int idle = program(house, w(7, 0, 0, 0, 0));
+                long number = 4 * places - 1;
+                long[] due = new long[8 + places];
+                due[1] = number;
+                due[2] = number;
+                due[7 + places] = number;
+                int pair = house.pair(last, idle, kind);
+                CHECK.due("ends", 1, house.explore(pair, 1));
+                endIs(house, pair, 0, due);
+            }
+        }
     }
 
     /** Stores go in their order: who sees the flag sees the number. */
