@@ -6,7 +6,7 @@ import java.util.HashSet;
 import java.util.Set;
 import java.util.TreeSet;
 
-/** The class has the document's face, and no other member that can be seen from outside. */
+/** The class has the document's face, no other member that can be seen from outside, and the sizes of rule 11. */
 public final class FaceTest {
     private static final String[] METHODS = {
         "int machine(int int) IllegalArgumentException IllegalStateException",
@@ -43,12 +43,28 @@ public final class FaceTest {
         check.due("constructors", 1, constructors.length);
         check.due("the constructor's parameters", 0, constructors[0].getParameterCount());
         check.due("the constructor is public", 1, Modifier.isPublic(constructors[0].getModifiers()) ? 1 : 0);
+        sizes(check, ProcessorHouse.class);
         for (Class<?> inside : ProcessorHouse.class.getDeclaredClasses()) {
+            sizes(check, inside);
             if (!Modifier.isStatic(inside.getModifiers()) || Modifier.isPublic(inside.getModifiers())) {
                 check.tell(inside + " is not static, or public");
             }
         }
         check.done();
+    }
+
+    private static void sizes(Check check, Class<?> owner) {
+        int fields = 0;
+        for (Field field : owner.getDeclaredFields()) {
+            fields += Modifier.isStatic(field.getModifiers()) ? 0 : 1;
+        }
+        check.due("at most 20 fields in " + owner.getSimpleName(), 1, fields <= 20 ? 1 : 0);
+        for (Method method : owner.getDeclaredMethods()) {
+            check.due("at most 7 parameters of " + method.getName(), 1, method.getParameterCount() <= 7 ? 1 : 0);
+        }
+        for (Constructor<?> constructor : owner.getDeclaredConstructors()) {
+            check.due("at most 7 parameters", 1, constructor.getParameterCount() <= 7 ? 1 : 0);
+        }
     }
 
     private static void methods(Check check) {

@@ -9,6 +9,8 @@ public final class HandleTest {
         programs();
         drops();
         dropOfUsed();
+        usedByEachOne();
+        usedBySeveral();
         sixtyHandles();
         rules();
         counts();
@@ -122,6 +124,87 @@ public final class HandleTest {
         one.drop(3);
         one.drop(6);
         CHECK.refused(one, 3, "drop(2), by the sim alone", () -> one.drop(2));
+    }
+
+    /** One user alone, then none: 1 machine, 2 and 3 programs, 4 core; 5 is what uses them. */
+    private static ProcessorHouse twoPrograms() {
+        ProcessorHouse house = new ProcessorHouse();
+        house.machine(4, 2);
+        house.program(1);
+        house.word(2, 7, 0, 0, 0, 0);
+        house.program(1);
+        house.word(3, 7, 0, 0, 0, 0);
+        house.core(1, 1, 0, 0, 0);
+        return house;
+    }
+
+    private static void usedByEachOne() {
+        int[][] dueWhenUsed = {{2}, {2, 4}, {2}, {2, 3}, {3, 2}};
+        for (int user = 0; user < dueWhenUsed.length; user++) {
+            ProcessorHouse house = twoPrograms();
+            switch (user) {
+                case 0 -> house.run(2);
+                case 1 -> house.sim(4, 2);
+                case 2 -> house.pair(2, 2, 1);
+                case 3 -> house.pair(2, 3, 0);
+                default -> house.pair(3, 2, 0);
+            }
+            for (int handle : dueWhenUsed[user]) {
+                CHECK.refused(house, 3, "drop(" + handle + "), used by " + user, () -> house.drop(handle));
+            }
+            for (int handle = 2; handle <= 3; handle++) {
+                int program = handle;
+                if (contains(dueWhenUsed[user], handle)) {
+                    CHECK.refused(house, 3, "word of a used one", () -> house.word(program, 7, 0, 0, 0, 0));
+                } else {
+                    CHECK.answers("word of one that is not used", 2, () -> house.word(program, 7, 0, 0, 0, 0));
+                }
+            }
+            if (contains(dueWhenUsed[user], 4)) {
+                CHECK.refused(house, 3, "change of a used one", () -> house.change(4, 1, 0, 0, 0));
+            } else {
+                CHECK.answers("change of one that is not used", 1, () -> house.change(4, 1, 0, 0, 0));
+            }
+            CHECK.answers("what uses is not used itself", house.kind(5), () -> house.drop(5));
+            for (int handle : dueWhenUsed[user]) {
+                CHECK.answers("drop(" + handle + ")", house.kind(handle), () -> house.drop(handle));
+            }
+        }
+    }
+
+    private static boolean contains(int[] numbers, int number) {
+        for (int k : numbers) {
+            if (k == number) {
+                return true;
+            }
+        }
+        return false;
+    }
+
+    /** As long as one of several lives. */
+    private static void usedBySeveral() {
+        ProcessorHouse house = twoPrograms();
+        house.run(2);
+        house.run(2);
+        house.sim(4, 2);
+        house.sim(4, 3);
+        house.drop(5);
+        CHECK.refused(house, 3, "drop(2), by a second run", () -> house.drop(2));
+        house.drop(6);
+        CHECK.refused(house, 3, "drop(2), by a sim", () -> house.drop(2));
+        house.drop(7);
+        CHECK.refused(house, 3, "drop(4), by a second sim", () -> house.drop(4));
+        CHECK.refused(house, 3, "change(4, ..), by a second sim", () -> house.change(4, 2, 0, 0, 0));
+        CHECK.refused(house, 3, "drop(3), by a sim", () -> house.drop(3));
+        CHECK.answers("drop(2), free", 2, () -> house.drop(2));
+        house.drop(8);
+        CHECK.refused(house, 3, "drop(1), by a program and a core", () -> house.drop(1));
+        house.drop(4);
+        CHECK.refused(house, 3, "drop(1), by a program", () -> house.drop(1));
+        house.drop(3);
+        CHECK.answers("drop(1), free", 1, () -> house.drop(1));
+        CHECK.due("count(1)", 0, house.count(1));
+        CHECK.due("count(0)", 8, house.count(0));
     }
 
     private static void sixtyHandles() {
